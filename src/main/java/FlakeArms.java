@@ -1423,13 +1423,13 @@ public final class FlakeArms {
 
         /** Goes past a token of this sort (none goes past the END); whether it is here. */
         private boolean skip(int sort) {
-            boolean isIt = isHere(sort);
+            boolean isIt = at >= 0 && at < sorts.length && sorts[at] == sort;
             at += isIt ? 1 : 0;
             return isIt;
         }
 
         private int valueHere() {
-            return isHere(VALUE) && at < values.length ? values[at] : -1;
+            return at >= 0 && at < values.length && sorts[at] == VALUE ? values[at] : -1;
         }
 
         private boolean readClause() {

@@ -7,6 +7,7 @@ public final class CameTest {
         oddsOfSome();
         manyToFreeze();
         found();
+        foundAgain();
         forms();
         c.end();
     }
@@ -165,6 +166,61 @@ public final class CameTest {
         c.due(27, "found(0, 2)", x.found(0, 2), -1);
         c.due(27, "found(0, -1)", x.found(0, -1), -1);
         c.due(27, "found(4, 0)", x.found(4, 0), -1);
+    }
+
+    /** Each of the 216 ways of three MINUTES by six GROWTHS is as good as the one that is found. */
+    private static void foundAgain() {
+        FlakeArms x = new FlakeArms();
+        int[] kinds = {4, 3, 5, 2, 1, 0};
+        int[] as = {3, 2, 5, 1, 9, 1};
+        for (int i = 0; i < 6; i++) {
+            x.growth(kinds[i], as[i]);
+        }
+        for (int way = 0; way < 216; way++) {
+            int[] growths = {way / 36, way / 6 % 6, way % 6};
+            x.begin(0);
+            x.begin(1);
+            for (int g : growths) {
+                x.grow(0, g);
+            }
+            int minutes = x.found(0, 0);
+            int digits = x.found(0, 1);
+            int read = 0;
+            for (int i = 0; i < minutes; i++) {
+                x.grow(1, digits >> 3 * i & 7);
+                read = read * 6 + (digits >> 3 * i & 7);
+            }
+            c.due(27, "found MINUTES of way " + way, minutes >= 0 && minutes <= 3 ? 1 : 0, 1);
+            c.due(27, "unlike what is found of way " + way, same(x), 1);
+            c.due(27, "no earlier way than that of " + way, minutes < 3 || read <= way ? 1 : 0, 1);
+        }
+        FlakeArms y = new FlakeArms();
+        y.growth(0, 1);
+        for (int minutes = 0; minutes < 4; minutes++) {
+            foundIs(y, 0, minutes, 0);
+            y.grow(0, 0);
+        }
+        foundIs(y, 0, -3, -3);
+        FlakeArms z = new FlakeArms();
+        for (int i = 0; i < 5; i++) {
+            z.growth(0, 0);
+        }
+        z.growth(0, 1);
+        for (int minutes = 0; minutes < 4; minutes++) {
+            foundIs(z, 0, minutes, new int[] {0, 5, 055, 0555}[minutes]);
+            z.grow(0, 5);
+        }
+    }
+
+    private static int same(FlakeArms x) {
+        for (int q = -5; q <= 5; q++) {
+            for (int r = -5; r <= 5; r++) {
+                if ((x.cell(0, q, r) >= 0) != (x.cell(1, q, r) >= 0)) {
+                    return 0;
+                }
+            }
+        }
+        return 1;
     }
 
     private static void grow(FlakeArms x, int flake, int growth) {

@@ -335,5 +335,7 @@ public final class FlakesTest {
         c.due(14, "cell(0, 4, -4)", x.cell(0, 4, -4), 0);
         c.due(14, "cell(0, 1, 0)", x.cell(0, 1, 0), 0);
         c.due(14, "breaks(0, 5)", x.breaks(0, 5), 0);
+        c.due(14, "breaks(0, 0)", x.breaks(0, 0), 1);
+        c.due(14, "cell(0, 1, 0)", x.cell(0, 1, 0), -9);
     }
 }

@@ -153,14 +153,15 @@ public final class GrowthsTest {
             z = z * 1103515245 + 12345;
         }
         c.due(19, "seed behind six", x.seed(1), z);
-        for (int m = 1; m <= 4; m++) {
+        for (int i = 0; i < 40; i++) {
+            int m = 1 + i % 4;
             x.miss(m);
             x.begin(1);
-            x.seed(-77);
+            x.seed(-77 + 1000003 * i);
             x.grow(1, 0);
             // By r, then by q, is the order in which z goes on.
             int[][] order = {{0, -1}, {1, -1}, {-1, 0}, {1, 0}, {-1, 1}, {0, 1}};
-            z = -77;
+            z = -77 + 1000003 * i;
             for (int[] at : order) {
                 z = z * 1103515245 + 12345;
                 int want = (z >>> 16) % 4 >= m ? 1 : -9;

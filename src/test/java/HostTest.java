@@ -22,6 +22,7 @@ public final class HostTest {
         c.due(34, "item(0, 0, 39)", x.item(0, 0, 39), 0);
         c.due(34, "item(0, 0, 40)", x.item(0, 0, 40), -12);
         x.put(0, 3, 9);
+        x.put(0, 0, 8);
         c.due(34, "sheet(0, 0, 41)", x.sheet(0, 0, 41), -1);
         c.due(34, "sheet(0, 0, -1)", x.sheet(0, 0, -1), -14);
         c.due(34, "sheet(0, 0, MIN)", x.sheet(0, 0, Integer.MIN_VALUE), -14);
@@ -32,6 +33,7 @@ public final class HostTest {
         c.due(34, "item(0, 0, 3)", x.item(0, 0, 3), 9);
         c.due(34, "sheet(0, 1, 5)", x.sheet(0, 1, 5), 1);
         c.due(34, "item(0, 1, 3)", x.item(0, 1, 3), 0);
+        c.due(34, "item(0, 1, 0)", x.item(0, 1, 0), 0);
         c.due(34, "item(0, 0, 3)", x.item(0, 0, 3), -13);
         c.due(34, "sheet(0, -1, 99)", x.sheet(0, -1, 99), 1);
         c.due(34, "item(0, 1, 3)", x.item(0, 1, 3), -11);
@@ -189,6 +191,8 @@ public final class HostTest {
         actIs(x, 3, 0, 20, 64, 51, 40, 10);
         actIs(x, 3, 1, 20, 128 - 9 + 10, 41, 20, 11, 51, 40, 10, 51, 40, 10);
         actIs(x, 3, 2, 20, 3 ^ 1, 50, 12);
+        actIs(x, 3, 2, 25, 3 ^ 1, 50, 12);
+        actIs(x, 3, 2, 26, 4 ^ 1, 50, 12);
         actIs(x, 3, 3, 20, 129 ^ 9, 13, 41, 20, 11, 51, 40, 10, 51, 40, 10);
         x = with(5, 2, 9);
         actIs(x, 3, 0, 20, 22, 10);

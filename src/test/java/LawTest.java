@@ -51,6 +51,10 @@ public final class LawTest {
         due("use 1 if", -108);
         due("used 1;", -100);
         due("us 1;", -100);
+        due("ase 1;", -100);
+        due("uso 1;", -100);
+        due("pick if xize = 1;", -108);
+        due("pick if 1 = sizx;", -112);
         due("Use 1;", -100);
         due(" 1", -101);
         due("\tuse 1;", -100);
@@ -130,6 +134,12 @@ public final class LawTest {
         c.due(23, "picks(0, -1, 0)", x.picks(0, -1, 0), -1);
         c.due(23, "picks(0, 0, -1)", x.picks(0, 0, -1), -1);
         c.due(23, "picks(4, 0, 0)", x.picks(4, 0, 0), -1);
+        Checks.law(x, "use 1 if 1 = 2; use 2; use 3 if 1 = 2;");
+        c.due(23, "picks(0, 0, 0) by a CLAUSE without COND", x.picks(0, 0, 0), 2);
+        for (int i = 0; i < 60; i++) {
+            Checks.law(x, "use 1 if 1=2 or 1=2 or 1=2 or 1=2 or 1=1;");
+        }
+        c.due(23, "picks(0, 0, 0) behind many LAWS", x.picks(0, 0, 0), 1);
         Checks.law(x, "use 4 if 1 = 2;");
         c.due(23, "picks(0, 0, 0) without one that holds", x.picks(0, 0, 0), 0);
     }

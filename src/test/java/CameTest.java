@@ -170,16 +170,14 @@ public final class CameTest {
 
     /** Each of the 216 ways of three MINUTES by six GROWTHS is as good as the one that is found. */
     private static void foundAgain() {
-        FlakeArms x = new FlakeArms();
         int[] kinds = {4, 3, 5, 2, 1, 0};
         int[] as = {3, 2, 5, 1, 9, 1};
-        for (int i = 0; i < 6; i++) {
-            x.growth(kinds[i], as[i]);
-        }
         for (int way = 0; way < 216; way++) {
             int[] growths = {way / 36, way / 6 % 6, way % 6};
-            x.begin(0);
-            x.begin(1);
+            FlakeArms x = new FlakeArms();
+            for (int i = 0; i < 6; i++) {
+                x.growth(kinds[i], as[i]);
+            }
             for (int g : growths) {
                 x.grow(0, g);
             }

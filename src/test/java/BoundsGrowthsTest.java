@@ -125,7 +125,7 @@ public final class BoundsGrowthsTest {
         }
     }
 
-    /** How many of some CELLS, picked by bits, have ICE; then whether a CELL FREEZES by each GROWTH. */
+    /** Whether a CELL of FLAKE 0 FREEZES by a GROWTH: a copy of it, FLAKE 1, grows by that. */
     private static void freezes(FlakeArms x, NaiveFlakes.At cell, int bits, int growth, boolean want) {
         x.copy(1, 0);
         x.grow(1, growth);

@@ -25,6 +25,8 @@ public final class RefusedTest {
     private static final Map<String, List<String>> PICTURES = new HashMap<>();
 
     public static void main(String[] args) {
+        codes();
+        codesOfTheHost();
         refusedFlakes();
         refusedTape();
         refusedGrowths();
@@ -136,6 +138,41 @@ public final class RefusedTest {
 
     private static void bad(String call, ToLongFunction<FlakeArms> calls) {
         refused(Start.RICH, call, -1, calls);
+    }
+
+    private static void codes() {
+        c.by(1, "; FULL (-2); NONE (-3); STATE (-4); and what the host refuses:");
+        c.due("BAD", FlakeArms.BAD, -1);
+        c.due("FULL", FlakeArms.FULL, -2);
+        c.due("NONE", FlakeArms.NONE, -3);
+        c.due("STATE", FlakeArms.STATE, -4);
+        FlakeArms x = build(Start.FULL);
+        c.due("size(4, 0)", x.size(4, 0), -1);
+        c.due("growth(0, 0)", x.growth(0, 0), -2);
+        c.due("feed(0, 1)", x.feed(0, 1), -2);
+        c.due("found(3, 0)", x.found(3, 0), -3);
+        c.due("trace(30)", x.trace(30), -3);
+        c.due("grow(2, 0)", x.grow(2, 0), -4);
+        c.due("again()", new FlakeArms().again(), -3);
+        c.due("forms(1)", new FlakeArms().forms(1), -3);
+    }
+
+    private static void codesOfTheHost() {
+        c.by(36, "-11 nothing where something is asked, -12 a place outside, -13 a thing of another sort or kind, "
+            + "-14 a size below 0, -15 parted by 0");
+        FlakeArms x = build(Start.RICH);
+        c.due("item(2, 2, 0)", x.item(2, 2, 0), -11);
+        c.due("put(2, 0, 0)", x.put(2, 0, 0), -11);
+        c.due("copies(0, 2)", x.copies(0, 2), -11);
+        c.due("taken(2, 0)", x.taken(2, 0), -11);
+        c.due("item(0, 0, 7)", x.item(0, 0, 7), -12);
+        c.due("put(0, 7, 0)", x.put(0, 7, 0), -12);
+        c.due("item(0, 2, 0)", x.item(0, 2, 0), -13);
+        c.due("copies(0, 0)", x.copies(0, 0), -13);
+        c.due("taken(0, 3)", x.taken(0, 3), -13);
+        c.due("sheet(0, 2, -1)", x.sheet(0, 2, -1), -14);
+        x.shelf(0, 0, 3);
+        c.due("act(0, 2, 9)", x.act(0, 2, 9), -15);
     }
 
     private static void refusedFlakes() {

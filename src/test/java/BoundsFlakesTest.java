@@ -22,6 +22,7 @@ public final class BoundsFlakesTest {
         newObject();
         armWithoutGap();
         armWithoutTheMiddle();
+        armOfAnEmptyMiddle();
         sizes();
         spanWithoutAny();
         edges();
@@ -36,7 +37,9 @@ public final class BoundsFlakesTest {
         armOf0To5();
         layerOf0To60();
         apart();
+        apartFromItself();
         copy();
+        copyOfItself();
         meetNew();
         meetRefused();
         breaks();
@@ -317,6 +320,25 @@ public final class BoundsFlakesTest {
         }
         c.due("breaks(1, 0)", x.breaks(1, 0), 5);
         c.due("cell(1, 0, 0)", x.cell(1, 0, 0), 0);
+    }
+
+    /** (0, 0) is left out of the ARM: whether it has ICE counts nothing. */
+    private static void armOfAnEmptyMiddle() {
+        c.by(8, "how many CELLS towards k from (0, 0) on, without that one, have ICE without a gap.");
+        for (int k = 0; k < 6; k++) {
+            NaiveFlakes.At step = Ice.at(0, 0).towards(k);
+            for (int far = 0; far <= 5; far++) {
+                FlakeArms x = new FlakeArms();
+                for (int i = 1; i <= far; i++) {
+                    x.freeze(0, step.q() * i, step.r() * i, true);
+                }
+                x.freeze(0, 0, 0, false);
+                c.due("arm(0, " + k + ") with " + far + " and none in the middle", x.arm(0, k), far);
+                c.due("arm(0, " + (k + 3) % 6 + ") across from it", x.arm(0, (k + 3) % 6), 0);
+                c.due("breaks(0, " + k + ")", x.breaks(0, k), far);
+                c.due("size(0, 0)", x.size(0, 0), 0);
+            }
+        }
     }
 
     private static void sizes() {
@@ -638,6 +660,43 @@ public final class BoundsFlakesTest {
             c.due("apart(3, " + f + ")", x.apart(3, f), -1);
             c.due("apart(" + f + ", " + f + ")", x.apart(f, f), -1);
         }
+    }
+
+    /** Only meet() names "the same" behind BAD. */
+    private static void apartFromItself() {
+        c.by(11, "The least number of CELLS that have ICE in just one of a FLAKE and what another one comes to by some "
+            + "turn, mirrored or not. BAD.");
+        FlakeArms x = new FlakeArms();
+        Ice.put(x, 1, new TreeSet<>());
+        Ice.put(x, 2, Ice.all());
+        x.freeze(3, 4, -1, true);
+        x.freeze(3, 0, 3, true);
+        for (int f = 0; f < 4; f++) {
+            c.due("apart(" + f + ", " + f + ")", x.apart(f, f), 0);
+            c.due("meet(" + f + ", " + f + ", 0)", x.meet(f, f, 0), -1);
+        }
+        c.due("unlike(3, 0, true)", x.unlike(3, 0, true), 4);
+    }
+
+    private static void copyOfItself() {
+        c.by(12, "A FLAKE (a) becomes as another one (b): its SIZE. BAD.");
+        FlakeArms x = new FlakeArms();
+        x.growth(0, 1);
+        x.grow(1, 0);
+        x.grow(1, 0);
+        x.freeze(1, -1, -3, true);
+        x.freeze(2, 0, 0, false);
+        Ice.put(x, 3, Ice.all());
+        int[] size = {1, 14, 0, 91};
+        for (int f = 0; f < 4; f++) {
+            c.due("copy(" + f + ", " + f + ")", x.copy(f, f), size[f]);
+            c.due("size(" + f + ", 0)", x.size(f, 0), size[f]);
+            c.due("size(" + f + ", 4)", x.size(f, 4), f == 1 ? 2 : 0);
+        }
+        c.due("layer(1, 0)", x.layer(1, 0), 1);
+        c.due("layer(1, 1)", x.layer(1, 1), 6);
+        c.due("layer(1, 2)", x.layer(1, 2), 7);
+        c.due("cell(1, -1, -3)", x.cell(1, -1, -3), 2);
     }
 
     private static void copy() {

@@ -29,6 +29,7 @@ public final class BoundsHostTest {
         cutTowards0();
         partedBy0();
         thatIsAll();
+        bodiesThatRanWhenParted();
         bodiesOfEachKind();
         noAct();
         traceRefused();
@@ -543,6 +544,35 @@ public final class BoundsHostTest {
         x.growth(0, 9);
         x.shelf(3, 0, 3);
         act(x, 2, 13, 2, 12);
+    }
+
+    /** An act() that answers -15 is the latest one, too: the bodies that began up to there ran in it. */
+    private static void bodiesThatRanWhenParted() {
+        c.by(40, "THE TRACE: numbers of the bodies that ran in the latest act(), as they began (left first); the first "
+            + "30 are kept.");
+        for (int n = 0; n < 6; n++) {
+            act(with(0, n, n), 2, 8, -15, 12);
+            act(with(1, n, n), 2, 8, -15, 12);
+            act(with(2, n, n), 2, 8, -15, 12);
+            act(with(2, n, n), 3, 8, -15, 31, 13, 11, 30, 10, 12);
+            act(with(3, n, n), 2, 8, -15, 12);
+            act(with(4, n, n), 2, 8, -15, 50, 12);
+            act(with(5, n, n), 2, 8, -15, 61, 12);
+        }
+        // Neither those of the one before it, longer or shorter, nor of one before that.
+        FlakeArms x = with(2, 3, 3);
+        act(x, 1, 8, -22, 11, 30, 10);
+        act(x, 2, 8, -15, 12);
+        act(x, 3, 8, -15, 31, 13, 11, 30, 10, 12);
+        act(x, 2, 8, -15, 12);
+        act(x, 0, 8, -11, 30, 10);
+        // A refused call of another kind isn't an act(): it leaves THE TRACE.
+        act(x, 3, 8, -15, 31, 13, 11, 30, 10, 12);
+        c.due("taken(3, 1)", x.taken(3, 1), -13);
+        c.due("shelf(3, 3, 0)", x.shelf(3, 3, 0), -1);
+        c.due("many(4)", x.many(4), 6);
+        c.due("trace(5)", x.trace(5), 12);
+        c.due("trace(6)", x.trace(6), -3);
     }
 
     /** n = 1, a = 4: by what each KIND makes of 10. */
